@@ -116,6 +116,10 @@ public final class HoursTest {
         due.is("still before noon", x.clash(0, 1), 2);
         x.clock(11);
         due.is("over noon", x.clash(0, 1), -4);
+        NoonCity z = Towns.of("left 0 1;left 1 2;right 2 1;left 3 2;walker 0 left ll;walker 3 left lr;walker 1 left l;"
+            + "walker 2 left r;");
+        due.is("on the way", z.clash(0, 1), 2);
+        due.is("at once", z.clash(2, 3), 1);
         NoonCity y = Towns.of("left 0 1;left 1 0;walker 0 left rrrrrrrrrl;walker 1 left rrrrrrrrrl;");
         due.is("the 10th hour", y.clash(0, 1), 10);
     }

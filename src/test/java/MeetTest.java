@@ -95,6 +95,11 @@ public final class MeetTest {
         needs(x, 9, 9, 9, 9);
         x.buy(3, 9);
         needs(x, 9, 9, 0, 0);
+        NoonCity z = Towns.of("gloves 0 9 0 0;");
+        needs(z, 1, 1, 1, 1000);
+        needs(z, 3, 9, 9, 3006);
+        needs(z, 9, 9, 9, 9000);
+        needs(z, 0, 9, 9, 9);
         NoonCity y = Towns.of("gloves 9 9 0 0;");
         needs(y, 9, 9, 0, 0);
         y.buy(1, 0);

@@ -39,6 +39,12 @@ public final class OddsTest {
         for (int[] w : wrong) {
             due.is("luck", x.luck(w[0], w[1], w[2], w[3]), -1);
         }
+        NoonCity z = Towns.of("left 0 1;right 0 2;left 1 3;right 1 0;left 2 0;right 2 2;walker 0 left rlr;");
+        luck(z, 0, 0, 2, 1, 1);
+        luck(z, 0, 2, 2, (512 + 128 + 32) / 8, 125);
+        z.go(1);
+        luck(z, 0, 1, 2, (81 + 9) / 10, 10);
+        luck(z, 0, 1, 1, 9, 100);
         NoonCity y = Towns.of("left 0 0;right 0 1;walker 0 left llllllllll;");
         luck(y, 0, 1, 0, 3486784401L, 10000000000L);
         luck(y, 0, 1, 1, 6513215599L, 10000000000L);

@@ -28,6 +28,7 @@ public final class SheetsTest {
         x.put(1, 4);
         x.buy(2, 9);
         x.forget(0);
+        x.see(1, 2, 2, false);
         x.sheet(0, 1, 7);
         Towns.feed(x, "hour");
         due.is("CLASHES", x.rule(4), 1);
@@ -47,6 +48,7 @@ public final class SheetsTest {
         due.is("a CORNER", x.walker(1, 0), 1);
         due.is("GLOVES", x.gloves(2), 10);
         due.is("what was SEEN", x.fits(0, 0), 1 << 4);
+        due.is("of the other one nothing", x.fits(1, 0), 31);
         due.is("keep(0) once more", x.keep(0), 1);
     }
 
@@ -96,6 +98,7 @@ public final class SheetsTest {
         due.is("NULL ahead of INDEX", x.lay(3, -1, 0), -11);
         x.sheet(3, 0, 2);
         due.is("lay(3, 1, 5)", x.lay(3, 1, 5), 1);
+        due.is("lay(3, 0, 5)", x.lay(3, 0, 5), 1);
         due.is("INDEX", x.lay(3, 2, 5), -12);
         due.is("INDEX", x.lay(3, -1, 5), -12);
         due.is("INDEX", x.lay(3, Integer.MAX_VALUE, 5), -12);

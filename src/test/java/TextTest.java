@@ -111,6 +111,12 @@ public final class TextTest {
         fails("4;", 2, 0);
         fails("  cities 4;", 2, 2);
         fails("c", 2, 0);
+        fails("az", 2, 0);
+        fails("za", 2, 0);
+        fails("bity 4;", 2, 0);
+        fails("cit 4;", 2, 0);
+        fails("glove 4;", 2, 0);
+        fails("keepers 4;", 2, 0);
         fails("walker 0 middle l;", 2, 9);
         fails("walker 0 right", 2, 14);
         fails("hour 1;walk 0 left l;", 2, 7);
@@ -131,6 +137,15 @@ public final class TextTest {
         fails(" :", 1, 1);
         fails("walker 0 left lL;", 1, 15);
         fails("city 9?", 3, 5);
+        fails("walker 0 ? left", 1, 9);
+        fails("walker 0 left ? l", 1, 14);
+        fails("walker 0 left l ? l", 1, 16);
+        fails("walker ? l", 1, 7);
+        fails("left 0 ? l", 1, 7);
+        fails("sign ? l", 1, 5);
+        fails("gloves 1 2 ? l", 1, 11);
+        fails("hour ? l", 1, 5);
+        fails("city ? l", 1, 5);
         fails("hour 1?", 1, 6);
     }
 
@@ -140,6 +155,14 @@ public final class TextTest {
         holds("city 2;", 1);
         holds("city 8;", 1);
         fails("left 8 0;", 3, 5);
+        fails("left 8 x;", 3, 5);
+        fails("left 0 8 x;", 3, 7);
+        fails("sign 8 x;", 3, 5);
+        fails("city 9 x;", 3, 5);
+        fails("hour 24 x;", 3, 5);
+        fails("gloves 1 10 x;", 3, 9);
+        fails("walker 8 x;", 3, 7);
+        holds("left 7 7;right 7 7;sign 7;walker 7 left l;keeper 7 left l;city 8;", 6);
         fails("left 0 8;", 3, 7);
         fails("right 8 0;", 3, 6);
         fails("right 0 8;", 3, 8);
@@ -164,6 +187,11 @@ public final class TextTest {
         fails("hour 4;hour 4;", 4, 7);
         fails("hour 4;hour;", 4, 7);
         fails("gloves 1 1 1 1; gloves 1 1 1 1;", 4, 16);
+        fails("city 4;city x;", 4, 7);
+        fails("hour 4;hour x;", 4, 7);
+        fails("gloves 1 1 1 1;gloves x;", 4, 15);
+        fails("sign 3;sign 3 x;", 4, 12);
+        fails("left 0 1;left 0 x;", 4, 14);
         fails("left 0 1;left 0 1;", 4, 14);
         fails("left 0 1;left 1 1;left 1 8;", 4, 23);
         fails("right 3 1;right 3 1;", 4, 16);
@@ -218,6 +246,15 @@ public final class TextTest {
         due.is("no IMAGE", x.back(1), -2);
         due.is("no GLOVES", x.gloves(2), 0);
         due.is("SHEETS stay", x.count(4), 3);
+        Towns.tell(x, "walker 0 right rrrr;keeper 1 right r;");
+        x.go(2);
+        Towns.tell(x, "keeper 0 left ll;walker 2 left l;");
+        int[][] walkers = {{0, 0, 1, 2}, {2, 0, 0, 1}};
+        for (int i = 0; i < 8; i++) {
+            due.is("walkers in place of walkers", x.walker(i / 4, i % 4), walkers[i / 4][i % 4]);
+        }
+        due.is("another ROUTE", x.letter(0, 0), 0);
+        due.is("a shorter one", x.letter(0, 2), -1);
         NoonCity y = Towns.of("city 2;left 0 1;left 1 0;walker 0 left l;walker 1 left l;");
         y.go(1);
         due.is("a CLASH", y.rule(4), 1);
