@@ -1308,21 +1308,15 @@ public final class NoonCity {
             Walker who = draft.people[draft.walkers];
             who.begin(c, keeper);
             draft.walkers++;
-            return takeHand(who) && takeRoute(who);
+            return nextOf(WORD) && takeHand(who) && nextOf(WORD) && takeRoute(who);
         }
 
         private boolean takeHand(Walker who) {
-            if (!nextOf(WORD)) {
-                return false;
-            }
             who.hand = isWord("right") ? 1 : 0;
             return who.hand == 1 || isWord("left") || refuse(2, first);
         }
 
         private boolean takeRoute(Walker who) {
-            if (!nextOf(WORD)) {
-                return false;
-            }
             if (at - first > MOST_LETTERS) {
                 return refuse(3, first);
             }
