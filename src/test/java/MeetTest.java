@@ -31,6 +31,9 @@ public final class MeetTest {
         x.street(5, 0, 3);
         due.is("at 3 or at 5", x.meet(0, 2, 1), 5);
         due.is("nothing is changed", x.walker(0, 0), 0);
+        NoonCity y = Towns.of("left 1 0;left 2 0;right 2 3;right 1 3;walker 1 left l;walker 2 left l;");
+        due.is("the least of 0 and 3", y.meet(0, 1, 1), 0);
+        due.is("behind an hour", y.meet(1, 0, 0), 1);
         int[][] wrong = {{0, 0, 0}, {4, 0, 0}, {0, 4, 0}, {-1, 0, 0}, {0, -1, 0}, {0, 1, 2}, {0, 1, -1}};
         for (int[] w : wrong) {
             due.is("meet", x.meet(w[0], w[1], w[2]), -1);

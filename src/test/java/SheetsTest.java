@@ -65,6 +65,14 @@ public final class SheetsTest {
         due.is("back(0)", x.back(0), 1);
         x.clock(2);
         due.is("an IMAGE stays as it was", x.back(0), 1);
+        Towns.tell(x, "left 0 1;left 1 2;left 2 3;walker 0 left lll;");
+        x.see(0, 2, 3, true);
+        x.keep(0);
+        x.forget(0);
+        x.see(0, 1, 3, true);
+        due.is("SEEN behind an hour", x.fits(0, 0), 0b1100);
+        x.back(0);
+        due.is("SEEN behind two hours", x.fits(0, 0), 0b1110);
         due.is("keep(2)", x.keep(2), -1);
         due.is("keep(-1)", x.keep(-1), -1);
         due.is("back(2)", x.back(2), -1);
