@@ -704,14 +704,17 @@ public final class NoonCity {
         }
 
         boolean tellsCornerThatIsNot() {
-            boolean tells = signBits >> corners != 0;
             for (int i = 0; i < streets.length; i++) {
-                tells |= streets[i] != NONE && (i / 2 >= corners || streets[i] >= corners);
+                if (streets[i] != NONE && (i / 2 >= corners || streets[i] >= corners)) {
+                    return true;
+                }
             }
             for (int w = 0; w < walkers; w++) {
-                tells |= people[w].place >= corners;
+                if (people[w].place >= corners) {
+                    return true;
+                }
             }
-            return tells;
+            return signBits >> corners != 0;
         }
 
         boolean hasCorner(int c) {

@@ -1,7 +1,26 @@
 /** Counts the answers that are not as due, and prints them. */
 final class Due {
+    private static final int SECONDS = 240;
+
     private int wrong = 0;
     private int asked = 0;
+
+    Due() {
+        Thread watch = new Thread(Due::endLate, "watch");
+        watch.setDaemon(true);
+        watch.start();
+    }
+
+    /** A call that fails to end is a fault like another one: without this the whole run would hang. */
+    private static void endLate() {
+        try {
+            Thread.sleep(1000L * SECONDS);
+        } catch (InterruptedException e) {
+            return;
+        }
+        System.out.println("a call did not end in " + SECONDS + " seconds");
+        Runtime.getRuntime().halt(1);
+    }
 
     void is(String call, long got, long want) {
         asked++;

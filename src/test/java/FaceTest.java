@@ -120,19 +120,24 @@ public final class FaceTest {
             (com.sun.management.ThreadMXBean) java.lang.management.ManagementFactory.getThreadMXBean();
         long id = Thread.currentThread().getId();
         use(new NoonCity());
+        NoonCity[] all = new NoonCity[50];
         long before = room.getThreadAllocatedBytes(id);
-        NoonCity x = new NoonCity();
-        long made = room.getThreadAllocatedBytes(id) - before;
+        for (int i = 0; i < all.length; i++) {
+            all[i] = new NoonCity();
+        }
+        long made = (room.getThreadAllocatedBytes(id) - before) / all.length;
         due.holds("a new object is small: " + made + " bytes", made > 0 && made < 16000);
         before = room.getThreadAllocatedBytes(id);
-        use(x);
+        for (NoonCity x : all) {
+            use(x);
+        }
         long more = room.getThreadAllocatedBytes(id) - before;
         due.holds("calls make nothing: " + more + " bytes", more < 4000);
     }
 
     private static void use(NoonCity x) {
         String text = "city 8;left 0 1;right 0 2;left 1 0;right 2 0;walker 0 left lrlr;keeper 1 right rrl;sign 2;";
-        for (int round = 0; round < 50; round++) {
+        for (int round = 0; round < 4; round++) {
             for (int i = 0; i < text.length(); i++) {
                 x.feed(text.charAt(i));
             }

@@ -1,11 +1,15 @@
 import java.util.Random;
 
-/** All promises: long runs of calls by a seed, each answer beside that of the model. */
+/** All promises: runs of 512 calls by a seed, each answer beside that of the model. */
 public final class RandomTest {
-    private static final int RUNS = 1500;
+    private static final int RUNS = 4000;
     private static final int CALLS = 512;
-    private static final int[] EDGES = {Integer.MIN_VALUE, -5, -4, -3, -2, -1, 10, 11, 24, 25, 40, 41,
-        60, 61, 127, 128, 160, 161, 255, 256, 1000, 65536, Integer.MAX_VALUE - 1, Integer.MAX_VALUE};
+    /** As many as a look at all makes, and as any other step makes but a text. */
+    private static final int LOOK = 80;
+    private static final int STEP = 24;
+    private static final int[] EDGES = {Integer.MIN_VALUE, Integer.MIN_VALUE + 1, -65536, -256, -32, -5, -4, -3, -2, -1,
+        10, 11, 24, 25, 32, 33, 40, 41, 60, 61, 64, 127, 128, 160, 161, 255, 256, 1000, 65536, 1 << 30,
+        Integer.MAX_VALUE - 1, Integer.MAX_VALUE};
 
     private static final Due due = new Due();
     private static Random by;
@@ -13,6 +17,7 @@ public final class RandomTest {
     private static Model m;
     private static int run;
     private static int calls;
+    private static boolean wild;
 
     public static void main(String[] args) {
         for (run = 0; run < RUNS; run++) {
@@ -20,10 +25,12 @@ public final class RandomTest {
             x = new NoonCity();
             m = new Model();
             calls = 0;
+            wild = false;
             if (by.nextInt(8) > 0) {
                 text(city());
             }
-            while (calls < CALLS) {
+            wild = run % 10 == 9;
+            while (calls < CALLS - LOOK - STEP) {
                 int kind = by.nextInt(46);
                 if (kind < 43) {
                     call(kind);
@@ -32,17 +39,22 @@ public final class RandomTest {
                 }
             }
             lookAtAll();
+            due.holds("a run of " + calls + " calls at most", calls <= CALLS);
         }
         due.close("RandomTest");
     }
 
     private static void is(String call, long got, long want) {
+        calls++;
         due.is("run " + run + ", " + call, got, want);
     }
 
     /** Mostly from low to high, at times a little or much beyond. */
     private static int n(int low, int high) {
         int which = by.nextInt(40);
+        if (wild && which < 8) {
+            return which < 4 ? by.nextInt() : low - 1 - by.nextInt(3);
+        }
         if (which == 0) {
             return EDGES[by.nextInt(EDGES.length)];
         }
@@ -126,41 +138,49 @@ public final class RandomTest {
     }
 
     private static void text(String text) {
-        for (int i = 0; i < text.length() && calls < CALLS; i++) {
+        if (calls + text.length() + LOOK + LOOK > CALLS) {
+            return;
+        }
+        for (int i = 0; i < text.length(); i++) {
             int c = text.charAt(i);
             is("feed(" + c + ")", x.feed(c), m.feed(c));
-            calls++;
         }
         is("text() of " + text, x.text(), m.text());
         is("fault()", x.fault(), m.fault());
-        calls += 2;
-        lookAtAll();
+        if (calls + LOOK + LOOK <= CALLS) {
+            lookAtAll();
+        }
     }
 
     private static void lookAtAll() {
-        for (int what = 0; what < 8; what++) {
+        for (int what = 0; what < 6; what++) {
             is("rule(" + what + ")", x.rule(what), m.rule(what));
-            is("count(" + what + ")", x.count(what), m.count(what));
-            for (int k = 0; k < 9; k++) {
-                is("corner(" + k + ", " + what + ")", x.corner(k, what), m.corner(k, what));
-                is("walker(" + k + ", " + what + ")", x.walker(k, what), m.walker(k, what));
-                is("leads(" + k + ", 0, " + what * 3 + ")", x.leads(k, 0, what * 3), m.leads(k, 0, what * 3));
-            }
-            is("gloves(" + what + ")", x.gloves(what), m.gloves(what));
         }
-        for (int w = 0; w < 4; w++) {
-            for (int i = 0; i < 10; i++) {
+        for (int what = 0; what < 7; what++) {
+            is("count(" + what + ")", x.count(what), m.count(what));
+        }
+        for (int c = 0; c < m.rule(0); c++) {
+            is("corner(" + c + ", 0)", x.corner(c, 0), m.corner(c, 0));
+            is("corner(" + c + ", 1)", x.corner(c, 1), m.corner(c, 1));
+        }
+        for (int w = 0; w < m.rule(2); w++) {
+            for (int what = 0; what < 4; what++) {
+                is("walker(" + w + ", " + what + ")", x.walker(w, what), m.walker(w, what));
+            }
+            for (int i = by.nextInt(5); i < 10; i += 4) {
                 is("letter(" + w + ", " + i + ")", x.letter(w, i), m.letter(w, i));
             }
             is("fits(" + w + ", 0)", x.fits(w, 0), m.fits(w, 0));
             is("fits(" + w + ", 1)", x.fits(w, 1), m.fits(w, 1));
+        }
+        for (int what = 0; what < 3; what++) {
+            is("gloves(" + what + ")", x.gloves(what), m.gloves(what));
         }
         is("torn()", x.torn(), m.torn());
         is("fault()", x.fault(), m.fault());
     }
 
     private static void call(int kind) {
-        calls++;
         if (kind < 18) {
             callEarly(kind);
         } else if (kind < 31) {
@@ -277,7 +297,7 @@ public final class RandomTest {
                 break;
             }
             case 35: { is("keep(" + b + ")", x.keep(b), m.keep(b)); break; }
-            case 36: { is("back(" + b + ")", x.back(b), m.back(b)); lookAtAll(); break; }
+            case 36: { back(b); break; }
             case 37: {
                 int i = by.nextBoolean() ? n(0, 40) : n(0, 8);
                 is("sheet(" + k + ", " + lane + ", " + i + ")", x.sheet(k, lane, i), m.sheet(k, lane, i));
@@ -295,6 +315,13 @@ public final class RandomTest {
         }
     }
 
+    private static void back(int k) {
+        is("back(" + k + ")", x.back(k), m.back(k));
+        if (by.nextBoolean() && calls + LOOK + LOOK <= CALLS) {
+            lookAtAll();
+        }
+    }
+
     /** A sheet of which most is whole, then read. */
     private static void fill(int k, int lane) {
         int n = by.nextInt(12);
@@ -303,7 +330,6 @@ public final class RandomTest {
             int v = by.nextInt(30) == 0 ? n(0, 5) : i % 2 == 0 ? walker() : corner();
             v += by.nextInt(20) == 0 ? 256 : 0;
             is("lay(" + k + ", " + i + ", " + v + ")", x.lay(k, i, v), m.lay(k, i, v));
-            calls++;
         }
         readAll(k, by.nextInt(8) == 0 ? n(0, 2) : lane, by.nextInt(8) == 0 ? n(0, 3) : 0, n(0, 6));
     }
@@ -315,6 +341,5 @@ public final class RandomTest {
         for (int w = 0; w < 4; w++) {
             is("walker(" + w + ", 0) behind " + call, x.walker(w, 0), m.walker(w, 0));
         }
-        calls += 2;
     }
 }
