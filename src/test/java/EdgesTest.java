@@ -19,6 +19,8 @@ public final class EdgesTest {
         chainMeets();
         seenHours();
         seenImages();
+        seenHoursInImages();
+        images();
         luckAll();
         luckShares();
         drifts();
@@ -254,6 +256,46 @@ public final class EdgesTest {
             due.is("FULL", x.see(0, 0, 0, true), -3);
             due.is("forget(" + last + ")", x.forget(last), 8);
             due.is("fits(1, 0) of those ahead", x.fits(1, 0), 255);
+        }
+    }
+
+    /** What one of eight SEEN tells, by its hours alone, is in an IMAGE, too. */
+    private static void seenHoursInImages() {
+        for (int last = 0; last < 8; last++) {
+            NoonCity x = Towns.of(RING + "walker 0 left lrlrl;walker 0 left l;");
+            for (int i = 0; i < 8; i++) {
+                x.see(i == last ? 0 : 1, i == last ? 3 : 10, i == last ? 3 : 1, true);
+            }
+            due.is("fits(0, 0)", x.fits(0, 0), 0b11);
+            due.is("fits(1, 0)", x.fits(1, 0), 0b11);
+            due.is("keep(0)", x.keep(0), 0);
+            x.forget(0);
+            for (int i = 0; i < 8; i++) {
+                x.see(0, 5, 3, false);
+            }
+            due.is("back(0)", x.back(0), 0);
+            due.is("fits(0, 0) by an IMAGE", x.fits(0, 0), 0b11);
+            due.is("fits(1, 0) by an IMAGE", x.fits(1, 0), 0b11);
+        }
+    }
+
+    private static void images() {
+        for (int k = 0; k < 2; k++) {
+            NoonCity x = new NoonCity();
+            due.is("the first IMAGE", x.keep(k), 0);
+            due.is("IMAGES", x.count(2), 1);
+            due.is("there is none", x.back(1 - k), -2);
+            due.is("once more", x.keep(k), 1);
+            due.is("IMAGES", x.count(2), 1);
+            due.is("the other one", x.keep(1 - k), 0);
+            due.is("IMAGES", x.count(2), 2);
+            due.is("the other one once more", x.keep(1 - k), 1);
+            due.is("the first one still", x.keep(k), 1);
+            due.is("back() leaves it", x.back(k), 0);
+            due.is("there is one", x.keep(k), 1);
+            x.text();
+            due.is("gone by a text", x.keep(k), 0);
+            due.is("IMAGES", x.count(2), 1);
         }
     }
 

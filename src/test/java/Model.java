@@ -177,7 +177,7 @@ final class Model {
     private String token;
 
     private void next() throws Torn {
-        Matcher m = Pattern.compile(" *([a-z]+|[0-9]+|;|$)").matcher(tape);
+        Matcher m = Pattern.compile(" *([a-z]+|[0-9]+|;|\\z)").matcher(tape);
         m.region(at, tape.length());
         if (!m.lookingAt()) {
             int i = at;
