@@ -48,6 +48,13 @@ public final class HoursTest {
         due.is("one behind the other", z.go(1), 0);
         NoonCity v = Towns.of("left 0 1;right 1 0;walker 0 left ll;walker 1 left rr;");
         due.is("by two streets", v.go(1), 1);
+        NoonCity u = Towns.of("left 0 1;left 1 0;walker 0 left llrl;walker 1 left llrl;");
+        due.is("in the first two hours and in the fourth", u.go(4), 3);
+        due.is("CLASHES so far", u.rule(4), 3);
+        u.again(0);
+        u.again(1);
+        due.is("in these hours alone, the last ones without any", u.go(60), 3);
+        due.is("CLASHES so far", u.rule(4), 6);
     }
 
     private static void bounds() {
@@ -122,5 +129,16 @@ public final class HoursTest {
         due.is("at once", z.clash(2, 3), 1);
         NoonCity y = Towns.of("left 0 1;left 1 0;walker 0 left rrrrrrrrrl;walker 1 left rrrrrrrrrl;");
         due.is("the 10th hour", y.clash(0, 1), 10);
+        NoonCity v = Towns.of("left 0 1;right 1 0;hour 12;walker 0 left r;keeper 1 left r;");
+        due.is("each by his own side", v.clash(0, 1), 1);
+        due.is("each by his own side", v.clash(1, 0), 1);
+        v.clock(11);
+        due.is("before noon there is no street to the right", v.clash(0, 1), -4);
+        v.clock(23);
+        v.keeps(1, false);
+        due.is("nor is there one behind it for who does not KEEP his side", v.clash(0, 1), -4);
+        v.keeps(0, true);
+        v.keeps(1, true);
+        due.is("nor for the other one who KEEPS it", v.clash(1, 0), -4);
     }
 }

@@ -159,5 +159,8 @@ public final class OddsTest {
         due.is("CLASHES so far do not count", y.drift(1, 1, 0), 0);
         due.is("CLASHES so far", y.rule(4), 1);
         due.is("seed 1103527590, as 1 becomes", y.drift(1103527590, 1, 0), 1);
+        due.is("both go once more", y.drift(1103527590, 2, 0), 2);
+        due.is("then one stays: CLASHES of all hours", y.drift(1103527590, 3, 0), 2);
+        due.is("nothing is changed", y.rule(4), 1);
     }
 }
